@@ -821,6 +821,15 @@ public final class HotPanLocksPromisesTest {
             y.ask(hand, 0, 3);
             due("share 1 of " + (hand + 1), y.digest(), digestByWords(y, ""));
         }
+        for (int asked = 9; asked < 40; asked++) {
+            y.giveUp(1);
+            y.ask(1, 0, 3);
+            due("share 1 of " + asked, y.digest(), digestByWords(y, ""));
+        }
+        HotPanLocks z = new HotPanLocks();
+        z.ask(0, 0, 3);
+        z.undo();
+        due("nothing asked, after undo", z.digest(), digestByWords(z, ""));
     }
 
     private static void test(String name, Runnable test) {
