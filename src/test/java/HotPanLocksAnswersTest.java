@@ -675,6 +675,8 @@ public final class HotPanLocksAnswersTest extends Sentences {
         due("a, over b, for all four", x.busiest(), 0);
         HotPanLocks y = after("a0p,b0s,c0p,d0h,e5h,f5p,g5p");
         due("e for two, a, b and c for one", y.busiest(), 4);
+        HotPanLocks z = after("a0h,b1h,b0p,c1p,d1p,h5h,f5p,g5p");
+        due("a for one, and over it for two more; h for two", z.busiest(), 0);
         due("all others wait for h", after("h0h", "a0p,b0p,c0p,d0p,e0p,f0p,g0p").busiest(), 7);
     }
 

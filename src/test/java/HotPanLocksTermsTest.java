@@ -26,13 +26,14 @@ public final class HotPanLocksTermsTest extends Sentences {
         due("undo, call 512", z.undo(), 5);
         Start worn = () -> {
             HotPanLocks w = new HotPanLocks();
-            for (int call = 1; call <= 505; call++) {
-                w.append('a');
-                w.clearBuffer();
+            for (int call = 1; call <= 508; call += 2) {
+                due("append, call " + call, w.append('a'), 1);
+                due("clearBuffer", w.clearBuffer(), 1);
             }
             return w;
         };
-        refused("undo, a late call", worn, STATE, HotPanLocks::undo);
+        refused("undo, call 509", worn, STATE, HotPanLocks::undo);
+        refused("ask, call 509", worn, ARGUMENT, w -> w.ask(0, 0, 4));
     }
 
     // ---- the face
@@ -231,6 +232,10 @@ public final class HotPanLocksTermsTest extends Sentences {
                 due("one lock", x.count(0), 1);
             }
         }
+        HotPanLocks x = after("a7p,b7p,c7s,b7s,d7p");
+        due("not behind one that waits for more", x.ask(0, 7, 1), 0);
+        due("nor does the stir wait, asking for less", x.ask(2, 7, 1), 0);
+        dueQueue(x, 7, "b2d1");
         HotPanLocks y = after("a7p,b7p");
         due("one mode more is something to be done", y.ask(0, 7, 3), 1);
         due("not granted for that", y.hand(0, 7), 1);
@@ -267,6 +272,11 @@ public final class HotPanLocksTermsTest extends Sentences {
         HotPanLocks z = after("a0p,b0p");
         due("no others at all", z.ask(0, 0, 3), 1);
         dueQueue(z, 0, "a3");
+        HotPanLocks w = after("b0p,c0s,h0p,a0h,g0p");
+        due("ahead of hand 0", w.ask(1, 0, 2), 1);
+        dueQueue(w, 0, "b2a3g1");
+        due("behind b alone", w.ask(7, 0, 2), 1);
+        dueQueue(w, 0, "b2h2a3g1");
     }
 
     private static void lesserLockIsKept() {

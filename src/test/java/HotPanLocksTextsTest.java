@@ -202,6 +202,14 @@ public final class HotPanLocksTextsTest extends Sentences {
             "a0p,,b0p", "A0p", "a00p", ",", "a0p,b0p,", "-", "a-", "ap"}) {
             refused("run of " + bad, () -> type(after("h9p"), bad), ARGUMENT, HotPanLocks::run);
         }
+        for (int length = 1; length <= 5; length++) {
+            for (String sign : new String[] {"x", ",", "-", "0", "p", "a"}) {
+                String wrong = sign.repeat(length);
+                refused("run behind " + wrong, () -> typed(wrong + "a0p"), ARGUMENT, HotPanLocks::run);
+                refused("run before " + wrong, () -> typed("a0p" + wrong), ARGUMENT, HotPanLocks::run);
+                refused("run around " + wrong, () -> typed("a0p" + wrong + ",b0p"), ARGUMENT, HotPanLocks::run);
+            }
+        }
         String[] full = {"a0p,".repeat(15), "a10p,".repeat(12), "a".repeat(60), "a0p,".repeat(14) + "a10,",
             "a0p,".repeat(14) + "a0p-"};
         for (String bad : full) {
