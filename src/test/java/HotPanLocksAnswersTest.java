@@ -153,6 +153,33 @@ public final class HotPanLocksAnswersTest extends Sentences {
         due("carried out", z.hand(2, 8), 1);
     }
 
+    private static void askedMoreOftenThanAByteCounts() {
+        HotPanLocks x = new HotPanLocks();
+        for (int time = 1; time <= 500; time++) {
+            x.ask(7, 11, 3);
+        }
+        due("asked", x.hand(7, 8), 500);
+        due("granted", x.hand(7, 7), 500);
+        due("asked in all", x.count(7), 500);
+        due("granted in all", x.count(6), 500);
+    }
+
+    /** Twelve locks of hand 7 are burnt by each tick; each time 13 calls. */
+    private static void burntMoreOftenThanAByteCounts() {
+        HotPanLocks x = new HotPanLocks();
+        x.set(0, 10);
+        x.set(1, 20);
+        for (int time = 1; time <= 38; time++) {
+            for (int row = 0; row < 12; row++) {
+                x.ask(7, row, 3);
+            }
+            due("burnt by one tick", x.pass(1), 12);
+        }
+        due("burnt", x.hand(7, 5), 456);
+        due("burnt in all", x.count(3), 456);
+        due("locks", x.count(0), 0);
+    }
+
     private static void hand() {
         section("Promise 15: hand");
         namesNoEdge("Returns a property of a hand.", "- `hand`: its number", "Returns the property.");
@@ -165,6 +192,9 @@ public final class HotPanLocksAnswersTest extends Sentences {
         holds("6: how often it lost so far", HotPanLocksAnswersTest::howOftenLost);
         holds("7: how often it was granted so far", HotPanLocksAnswersTest::howOftenGranted);
         holds("8: how often it asked so far", HotPanLocksAnswersTest::howOftenAsked);
+        holds("7: how often it was granted so far", HotPanLocksAnswersTest::askedMoreOftenThanAByteCounts);
+        holds("5: how often it was burnt so far (each lock counts)",
+                HotPanLocksAnswersTest::burntMoreOftenThanAByteCounts);
         holds(NO_HAND, () -> {
             refusedEach("hand", RICH, INDEX, NO_HANDS, (x, hand) -> x.hand(hand, 0));
             refusedEach("hand", RICH, INDEX, NO_HANDS, (x, hand) -> x.hand(hand, 8));
@@ -228,6 +258,17 @@ public final class HotPanLocksAnswersTest extends Sentences {
         due("it stays counted", x.row(11, 4), 2);
     }
 
+    private static void handedOnMoreOftenThanAByteCounts() {
+        HotPanLocks x = new HotPanLocks();
+        x.ask(0, 11, 3);
+        for (int time = 0; time < 250; time++) {
+            x.ask((time + 1) % 8, 11, 3);
+            x.handOn(time % 8, 11, (time + 1) % 8);
+        }
+        due("handed on", x.row(11, 4), 250);
+        due("handed on in all", x.count(5), 250);
+    }
+
     private static void handOfTheFirstRequest() {
         HotPanLocks x = after("h0h,g0p,a0p");
         due("in turn, not by number", x.row(0, 5), 6);
@@ -247,6 +288,7 @@ public final class HotPanLocksAnswersTest extends Sentences {
         holds("2: its holders, as a bit mask", HotPanLocksAnswersTest::holdersOfARow);
         holds("3: requests in its queue", HotPanLocksAnswersTest::requestsOfARow);
         holds("4: how often it was handed on so far", HotPanLocksAnswersTest::howOftenHandedOn);
+        holds("4: how often it was handed on so far", HotPanLocksAnswersTest::handedOnMoreOftenThanAByteCounts);
         holds("5: the hand of the first request, NONE without one", HotPanLocksAnswersTest::handOfTheFirstRequest);
         holds(NO_ROW, () -> {
             refusedEach("row", RICH, INDEX, NO_ROWS, (x, row) -> x.row(row, 0));
@@ -350,6 +392,24 @@ public final class HotPanLocksAnswersTest extends Sentences {
         due("each hand's", y.hand(1, 6) + y.hand(2, 6), 2);
     }
 
+    /** Seven hands lose by each asking of hand 1: six that only wait for hand 0, and then itself; 10 calls each time. */
+    private static void moreLoseThanAByteCounts() {
+        HotPanLocks x = new HotPanLocks();
+        x.ask(0, 0, 3);
+        for (int time = 1; time <= 50; time++) {
+            x.ask(1, 1, 3);
+            for (int hand = 2; hand < 8; hand++) {
+                x.ask(hand, 0, 2);
+            }
+            x.ask(0, 1, 3);
+            x.ask(1, 0, 1);
+            x.release(0, 1);
+        }
+        due("lost in all", x.count(4), 350);
+        due("each of the seven as often", x.hand(7, 6) + x.hand(1, 6), 100);
+        due("hand 0 never", x.hand(0, 6), 0);
+    }
+
     private static void savedStates() {
         HotPanLocks x = new HotPanLocks();
         due("none", x.count(9), 0);
@@ -368,6 +428,7 @@ public final class HotPanLocksAnswersTest extends Sentences {
         holds("2: ticks so far; 3: locks that are gone by burnt hands so far; 4: how often hands lost so far; 5: how often"
                 + " rows were handed on so far; 6: how often hands were granted so far; 7: how often hands asked so far",
                 HotPanLocksAnswersTest::countsSoFar);
+        holds("4: how often hands lost so far", HotPanLocksAnswersTest::moreLoseThanAByteCounts);
         holds("8: rows with holders", HotPanLocksAnswersTest::countsOfWhatThereIs);
         holds("9: saved states", HotPanLocksAnswersTest::savedStates);
         holds("Throws `IllegalArgumentException` if what is not 0 to 9", () -> {
