@@ -907,6 +907,8 @@ public final class HotPanLocksAnswersTest extends Sentences {
         }, "");
         dueDigest("a full queue", () -> after("h11h", "a11p,b11s,c11h,d11p,e11s,f11h,g11p"), "");
         dueDigest("hand 0 waits", () -> after("b0h,a0h,c0p"), "");
+        dueDigest("hand 0 could peek and stir, but not hold", () -> after("b0p,c5s,a6p,d11p"), "");
+        dueDigest("hand 0 has what it would ask for, and less", () -> after("a0h,a1s,a2p"), "");
         dueDigest("hand 0 would lose", () -> after("b0h,b5h,a1h,b1p"), "");
         dueDigest("others would lose", () -> after("a0h,b1h,c1p,b0p"), "");
         dueDigest("hand 0 has takers", () -> after("a0h,b0p,c0p,a11p,d11p,e11s,f11h"), "");

@@ -63,6 +63,20 @@ public final class HotPanLocksLocksTest extends Sentences {
 
     // ---- promise 2
 
+    private static void whatAskChanges() {
+        changes("granted", RICH, x -> x.ask(6, 3, 2), "lock g3 0>2; granted g 0>1; asked g 0>1; saved 2>3");
+        changes("nothing to be done", RICH, x -> x.ask(1, 1, 1), "granted b 2>3; asked b 2>3; saved 2>3");
+        changes("waits", RICH, x -> x.ask(6, 0, 1), "queue 0 a2f3>a2f3g1; asked g 0>1; saved 2>3");
+        changes("waits, and a loses", RICH, x -> x.ask(2, 0, 3),
+                "lock a0 1>0; queue 0 a2f3>c3f3; lost a 0>1; asked c 1>2; saved 2>3");
+        changes("c loses, then b itself, of which a has more work", () -> {
+            HotPanLocks x = after("a0h,a3p,b1h,c1s,a1p");
+            x.pass(2);
+            return x;
+        }, x -> x.ask(1, 0, 2), "lock a1 0>1; lock b1 3>0; queue 1 c2a1>; granted a 2>3; lost b 0>1; asked b 1>2;"
+                + " lost c 0>1; saved 2>3");
+    }
+
     private static void askIsUndoable() {
         undoable("granted", RICH, x -> x.ask(6, 11, 3), 0);
         undoable("nothing to be done", RICH, x -> x.ask(1, 1, 2), 0);
@@ -101,6 +115,11 @@ public final class HotPanLocksLocksTest extends Sentences {
         due("c alone has it", x.row(0, 2), 4);
         due("a lost", x.hand(0, 6), 1);
         dueQueue(x, 0, "b3");
+        HotPanLocks y = after("a0h,b1h,a1p");
+        due("it loses", y.ask(1, 0, 1), 2);
+        due("it asks again, and waits", y.ask(1, 0, 1), 1);
+        y.giveUp(1);
+        due("it asks for less, and has it", y.ask(1, 1, 1), 0);
     }
 
     private static void asksAndLoses() {
@@ -126,7 +145,8 @@ public final class HotPanLocksLocksTest extends Sentences {
 
     private static void ask() {
         section("Promise 2: ask");
-        namesNoEdge("A hand asks for a row.", ITS_NUMBER, NUMBER_OF_ROW);
+        namesNoEdge(ITS_NUMBER, NUMBER_OF_ROW);
+        holds("A hand asks for a row.", HotPanLocksLocksTest::whatAskChanges);
         holds("Undoable.", HotPanLocksLocksTest::askIsUndoable);
         holds("- `mode`: 1 to 3", HotPanLocksLocksTest::modesToAskIn);
         holds("Returns 0 if it has such a lock then", HotPanLocksLocksTest::asksAndHasIt);
@@ -145,6 +165,12 @@ public final class HotPanLocksLocksTest extends Sentences {
     }
 
     // ---- promise 3
+
+    private static void whatReleaseChanges() {
+        changes("a gets more", RICH, x -> x.release(2, 0),
+                "lock a0 1>2; lock c0 2>0; queue 0 a2f3>f3; granted a 1>2; saved 2>3");
+        changes("nobody waits, and the row stays warm", RICH, x -> x.release(4, 2), "lock e2 2>0; saved 2>3");
+    }
 
     private static void releaseOfEdgeRows() {
         for (int row : new int[] {0, 11}) {
@@ -208,6 +234,7 @@ public final class HotPanLocksLocksTest extends Sentences {
     private static void release() {
         section("Promise 3: release");
         namesNoEdge(ITS_NUMBER, NUMBER_OF_ROW);
+        holds("A hand releases a row; the row is settled.", HotPanLocksLocksTest::whatReleaseChanges);
         holds("A hand releases a row; the row is settled.", HotPanLocksLocksTest::releaseOfEdgeRows);
         holds("(A hand that waits for another row can do so, too.)", HotPanLocksLocksTest::releaseWhileItWaitsElsewhere);
         holds("Undoable.", HotPanLocksLocksTest::releaseIsUndoable);
@@ -222,6 +249,13 @@ public final class HotPanLocksLocksTest extends Sentences {
 
     // ---- promise 4
 
+    private static void whatGiveUpChanges() {
+        changes("the last one", RICH, x -> x.giveUp(5), "queue 0 a2f3>a2; saved 2>3");
+        changes("the first one, which keeps its lesser lock", RICH, x -> x.giveUp(0), "queue 0 a2f3>f3; saved 2>3");
+        changes("the one in the way", () -> after("a0p,b0h,c0p,d0s"), x -> x.giveUp(1),
+                "lock c0 0>1; lock d0 0>2; queue 0 b3c1d2>; granted c 0>1; granted d 0>1; saved 1>2");
+    }
+
     private static void requestIsGone() {
         String[] want = {"c1d2e3", "b3d2e3", "b3c1e3", "b3c1d2"};
         for (int place = 0; place < 4; place++) {
@@ -231,6 +265,8 @@ public final class HotPanLocksLocksTest extends Sentences {
             due("the row of its request", x.hand(place + 1, 2), NONE);
             due("the mode of its request", x.hand(place + 1, 3), 0);
             due("not granted for it", x.hand(place + 1, 7), 0);
+            due("for nobody does it wait", x.hand(place + 1, 4), 0);
+            due("nor over others", x.waitsFor(place + 1), 0);
             due("it can ask again, behind all", x.ask(place + 1, 7, 1), 1);
             due("the last place", x.request(7, 3, 0), place + 1);
         }
@@ -283,6 +319,7 @@ public final class HotPanLocksLocksTest extends Sentences {
     private static void giveUp() {
         section("Promise 4: giveUp");
         namesNoEdge(ITS_NUMBER);
+        holds("A hand gives up waiting: its request is gone", HotPanLocksLocksTest::whatGiveUpChanges);
         holds("A hand gives up waiting: its request is gone", HotPanLocksLocksTest::requestIsGone);
         holds("the row is settled.", HotPanLocksLocksTest::rowIsSettledWhenGivenUp);
         holds("Undoable.", HotPanLocksLocksTest::giveUpIsUndoable);
@@ -294,6 +331,14 @@ public final class HotPanLocksLocksTest extends Sentences {
 
     // ---- promise 5
 
+    private static void whatHandOnChanges() {
+        changes("to the one that waits", RICH, x -> x.handOn(1, 1, 3),
+                "lock b1 3>0; lock d1 0>1; queue 1 d1>; handed on 1 0>1; granted d 0>1; saved 2>3");
+        changes("out of turn", () -> after("a0h,b0s,c0h,d0p,e0h,f0p"), x -> x.handOn(0, 0, 3),
+                "lock a0 3>0; lock b0 0>2; lock d0 0>1; queue 0 b2c3d1e3f1>c3e3f1; handed on 0 0>1; granted b 0>1;"
+                + " granted d 0>1; saved 1>2");
+    }
+
     private static void outOfTurn() {
         for (int other = 1; other <= 7; other++) {
             HotPanLocks x = after("a11h", "b11h,c11h,d11h,e11h,f11h,g11h,h11h");
@@ -302,6 +347,8 @@ public final class HotPanLocksLocksTest extends Sentences {
             due("six are left", x.row(11, 3), 6);
             due("the first of them", x.row(11, 5), other == 1 ? 2 : 1);
             due("granted", x.hand(other, 7), 1);
+            due("for nobody does it wait", x.hand(other, 4), 0);
+            due("nor over others", x.waitsFor(other), 0);
             due("handed on", x.row(11, 4), 1);
         }
         HotPanLocks y = after("a0h,a1h,b0h,h1h,a2p,c2p,d2h");
@@ -433,6 +480,8 @@ public final class HotPanLocksLocksTest extends Sentences {
         section("Promise 5: handOn");
         namesNoEdge(ITS_NUMBER, NUMBER_OF_ROW);
         holds("A hand hands a row on to another one that waits for it, out of turn", HotPanLocksLocksTest::outOfTurn);
+        holds("A hand hands a row on to another one that waits for it, out of turn",
+                HotPanLocksLocksTest::whatHandOnChanges);
         holds("its own lock is gone", HotPanLocksLocksTest::ownLockIsGone);
         holds("the request of the other one is granted, and then the row is settled",
                 HotPanLocksLocksTest::requestIsGrantedAndRowSettled);
@@ -452,6 +501,14 @@ public final class HotPanLocksLocksTest extends Sentences {
     }
 
     // ---- promise 6
+
+    private static void whatPassChanges() {
+        changes("one tick", RICH, x -> x.pass(1), "heat 0 6>8; heat 1 9>12; heat 2 6>8; ticks 3>4; saved 2>3");
+        changes("b is burnt, and d gets row 1", RICH, x -> x.pass(18),
+                "lock b1 3>0; lock d1 0>1; heat 0 6>42; queue 1 d1>; heat 1 9>63; heat 2 6>42; burnt b 0>1;"
+                + " granted d 0>1; ticks 3>21; saved 2>3");
+        changes("nobody has a lock", HotPanLocks::new, x -> x.pass(100), "ticks 0>100; saved 0>1");
+    }
 
     private static void passIsUndoableAsOneCall() {
         undoable("1 tick", RICH, x -> x.pass(1), 0);
@@ -493,7 +550,7 @@ public final class HotPanLocksLocksTest extends Sentences {
 
     private static void pass() {
         section("Promise 6: pass");
-        namesNoEdge("Lets ticks pass.");
+        holds("Lets ticks pass.", HotPanLocksLocksTest::whatPassChanges);
         holds("Undoable, as one call.", HotPanLocksLocksTest::passIsUndoableAsOneCall);
         holds("- `ticks`: 1 to 100", HotPanLocksLocksTest::leastAndMostTicks);
         holds("Returns how many locks are gone by burnt hands.", HotPanLocksLocksTest::locksGone);
@@ -538,6 +595,8 @@ public final class HotPanLocksLocksTest extends Sentences {
         };
         undoable("a warm row", start, x -> x.cool(0), 21);
         undoable("a cold row", start, x -> x.cool(1), 0);
+        changes("a warm row", start, x -> x.cool(0), "heat 0 21>0; saved 3>4");
+        changes("a cold row", start, x -> x.cool(1), "saved 3>4");
     }
 
     private static void heatThatItHad() {
@@ -573,6 +632,17 @@ public final class HotPanLocksLocksTest extends Sentences {
     }
 
     // ---- promise 8
+
+    private static void whatSetChanges() {
+        changes("less is borne, but nobody is burnt ahead of the next tick", () -> {
+            HotPanLocks x = rich();
+            x.pass(10);
+            return x;
+        }, x -> x.set(0, 10), "setting 0 60>10; saved 3>4");
+        changes("the heating", RICH, x -> x.set(1, 20), "setting 1 1>20; saved 2>3");
+        changes("the cooling", RICH, x -> x.set(2, 0), "setting 2 2>0; saved 2>3");
+        changes("the same value", RICH, x -> x.set(2, 2), "saved 2>3");
+    }
 
     private static void setIsUndoable() {
         undoable("another value", RICH, x -> x.set(0, 900), 60);
@@ -617,7 +687,8 @@ public final class HotPanLocksLocksTest extends Sentences {
 
     private static void set() {
         section("Promise 8: set");
-        namesNoEdge("Changes a setting.", "- `value`: the new value");
+        namesNoEdge("- `value`: the new value");
+        holds("Changes a setting.", HotPanLocksLocksTest::whatSetChanges);
         holds("Undoable.", HotPanLocksLocksTest::setIsUndoable);
         holds("- `setting`: 0 to 2", HotPanLocksLocksTest::eachSetting);
         holds("Returns the previous value.", HotPanLocksLocksTest::previousValue);

@@ -167,6 +167,20 @@ public final class HotPanLocksTermsTest extends Sentences {
         due("a stronger lock stands in place of the lesser one", y.hand(2, 1), 3);
     }
 
+    private static void workOfEachHandAlone() {
+        for (int hand = 0; hand < 8; hand++) {
+            for (int row = 0; row < 12; row++) {
+                HotPanLocks x = new HotPanLocks();
+                x.ask(hand, row, 3);
+                for (int other = 0; other < 8; other++) {
+                    due("work of hand " + other, x.hand(other, 1), other == hand ? 3 : 0);
+                    due("locks of hand " + other, x.hand(other, 0), other == hand ? 1 : 0);
+                }
+            }
+        }
+        due("a's lock on the last row does not save b", after("a11h,b0p,c1s,b1s").ask(2, 0, 3), 0);
+    }
+
     private static void handsRowsModes() {
         section("Terms");
         namesNoEdge("All numbers are integers.", "Hands, rows, modes");
@@ -177,6 +191,7 @@ public final class HotPanLocksTermsTest extends Sentences {
         holds("Two modes clash if their sum is above 3 (so peek goes together with peek and stir, stir with peek alone,"
                 + " hold with nothing).", HotPanLocksTermsTest::clashes);
         holds("The work of a hand is the sum of the modes of its locks.", HotPanLocksTermsTest::work);
+        holds("The work of a hand is the sum of the modes of its locks.", HotPanLocksTermsTest::workOfEachHandAlone);
     }
 
     // ---- queues
@@ -551,6 +566,57 @@ public final class HotPanLocksTermsTest extends Sentences {
         due("locks", x.count(0), 6);
     }
 
+    /** All peek at rows 0, 5 and 11; the loser holds row 1, the other one rows 2 and 3, and each asks for the other's. */
+    private static void nothingIsGoneFromOthers(int loser, int other) {
+        HotPanLocks x = new HotPanLocks();
+        for (int hand = 0; hand < 8; hand++) {
+            x.ask(hand, 0, 1);
+            x.ask(hand, 5, 1);
+            x.ask(hand, 11, 1);
+        }
+        x.ask(loser, 1, 3);
+        x.ask(other, 2, 3);
+        x.ask(other, 3, 3);
+        x.ask(other, 1, 3);
+        due("it loses", x.ask(loser, 2, 3), 2);
+        due("it waits for nobody", x.hand(loser, 4) + x.waitsFor(loser), 0);
+        for (int hand = 0; hand < 8; hand++) {
+            for (int row = 0; row < 12; row++) {
+                int had = row == 0 || row == 5 || row == 11 ? 1 : 0;
+                int want = hand == loser ? 0 : hand == other && row >= 1 && row <= 3 ? 3 : had;
+                due("lock of hand " + hand + " on row " + row, x.lock(hand, row), want);
+            }
+        }
+    }
+
+    private static void eachHandLosesAlone() {
+        for (int loser = 0; loser < 8; loser++) {
+            nothingIsGoneFromOthers(loser, (loser + 1) % 8);
+            nothingIsGoneFromOthers(loser, (loser + 7) % 8);
+        }
+    }
+
+    /** Hands 1 to 6 wait in this order for row 0, which hand 0 holds; then hand 0 asks for what one of them has. */
+    private static void losersWaitForNobody() {
+        for (int last = 1; last <= 6; last++) {
+            HotPanLocks x = new HotPanLocks();
+            x.ask(0, 0, 3);
+            x.ask(last, 1, 1);
+            x.ask(7, 1, 1);
+            for (int hand = 1; hand <= 6; hand++) {
+                x.ask(hand, 0, 1);
+            }
+            due("it waits for hand 7, which is in no ring", x.ask(0, 1, 3), 1);
+            for (int hand = 1; hand <= 6; hand++) {
+                boolean lost = hand <= last;
+                due("hand " + hand + ", up to the one that had row 1, lost", x.hand(hand, 6), lost ? 1 : 0);
+                due("the row for which it waits", x.hand(hand, 2), lost ? NONE : 0);
+                due("for whom it waits", x.hand(hand, 4), lost ? 0 : 1 | (1 << hand) - (2 << last));
+                due("also over others", x.waitsFor(hand), lost ? 0 : 128 | 1 | (1 << hand) - (2 << last));
+            }
+        }
+    }
+
     private static void rowsOfALoserAreSettled() {
         HotPanLocks x = after("a0p,a2h,h1h,h0h,g0p");
         dueQueue(x, 0, "h3g1");
@@ -583,6 +649,8 @@ public final class HotPanLocksTermsTest extends Sentences {
         holds("the one with the least work", HotPanLocksTermsTest::leastWorkLoses);
         holds("of several the one with the greatest number", HotPanLocksTermsTest::greatestNumberOfEqualsLoses);
         holds("all its locks and its request are gone", HotPanLocksTermsTest::allIsGoneFromALoser);
+        holds("all its locks and its request are gone", HotPanLocksTermsTest::eachHandLosesAlone);
+        holds("all its locks and its request are gone", HotPanLocksTermsTest::losersWaitForNobody);
         holds("and then the rows on which it had a lock or a request are settled, by ascending numbers",
                 HotPanLocksTermsTest::rowsOfALoserAreSettled);
     }

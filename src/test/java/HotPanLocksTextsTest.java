@@ -6,6 +6,13 @@ public final class HotPanLocksTextsTest extends Sentences {
 
     // ---- promise 9
 
+    private static void textsChangeNothingElse() {
+        changes("append", RICH, x -> x.append('4'), "");
+        changes("append of an error", RICH, x -> x.append('~'), "");
+        changes("clearBuffer", RICH, HotPanLocks::clearBuffer, "");
+        changes("firstError", RICH, HotPanLocks::firstError, "");
+    }
+
     private static void eachCode() {
         HotPanLocks x = new HotPanLocks();
         for (int code = 33; code <= 92; code++) {
@@ -42,7 +49,7 @@ public final class HotPanLocksTextsTest extends Sentences {
 
     private static void append() {
         section("Promise 9: append");
-        namesNoEdge("Appends a character to the buffer.");
+        holds("Appends a character to the buffer.", HotPanLocksTextsTest::textsChangeNothingElse);
         holds("- `code`: the character code, 33 to 126", HotPanLocksTextsTest::eachCode);
         holds("Returns the new length of the buffer.", HotPanLocksTextsTest::newLength);
         holds("Throws `IllegalArgumentException` if code is not 33 to 126", () -> {
@@ -126,6 +133,13 @@ public final class HotPanLocksTextsTest extends Sentences {
     }
 
     // ---- promise 12
+
+    private static void whatRunChanges() {
+        Start start = () -> type(after("a0h,b0p"), "c1s,d1p,d1-,b1p,e1p");
+        changes("up to b, which waits", start, HotPanLocks::run,
+                "lock c1 0>2; granted c 0>1; asked c 0>1; granted d 0>1; asked d 0>1; saved 1>2");
+        changes("none", () -> type(after("a0h,b0p"), "b1p"), HotPanLocks::run, "saved 1>2");
+    }
 
     private static void oneAfterTheOther() {
         HotPanLocks x = typed("a0h,b0h,a0-,b0-,c0p");
@@ -221,6 +235,7 @@ public final class HotPanLocksTextsTest extends Sentences {
     private static void run() {
         section("Promise 12: run");
         holds("Carries out the requests in the buffer, one after the other", HotPanLocksTextsTest::oneAfterTheOther);
+        holds("Carries out the requests in the buffer, one after the other", HotPanLocksTextsTest::whatRunChanges);
         holds("up to the first one whose method would throw an exception", HotPanLocksTextsTest::upToTheFirstThatThrows);
         holds("and clears the buffer", HotPanLocksTextsTest::runClears);
         holds("Undoable, as one call", HotPanLocksTextsTest::runIsUndoableAsOneCall);
@@ -231,6 +246,16 @@ public final class HotPanLocksTextsTest extends Sentences {
     }
 
     // ---- promise 13
+
+    private static void whatUndoChanges() {
+        changes("the ticks", RICH, HotPanLocks::undo, "heat 0 6>0; heat 1 9>0; heat 2 6>0; ticks 3>0; saved 2>1");
+        changes("a ring", () -> {
+            HotPanLocks x = after("a0h,b1h,a1p");
+            x.ask(1, 0, 1);
+            return x;
+        }, HotPanLocks::undo,
+                "lock a1 1>0; lock b1 0>3; queue 1 >a1; granted a 2>1; lost b 1>0; asked b 2>1; saved 2>1");
+    }
 
     private static void latestIsRestoredAndDropped() {
         HotPanLocks x = new HotPanLocks();
@@ -315,6 +340,7 @@ public final class HotPanLocksTextsTest extends Sentences {
         section("Promise 13: undo");
         holds("Restores the latest saved state, and drops it.", HotPanLocksTextsTest::latestIsRestoredAndDropped);
         holds("Restores the latest saved state, and drops it.", HotPanLocksTextsTest::restoredIsNotTouchedLater);
+        holds("Restores the latest saved state, and drops it.", HotPanLocksTextsTest::whatUndoChanges);
         holds("Returns how many saved states are left.", HotPanLocksTextsTest::howManyAreLeft);
         holds("Throws `IllegalStateException` if there is none", HotPanLocksTextsTest::noneIsLeft);
     }

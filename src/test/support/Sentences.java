@@ -227,6 +227,48 @@ abstract class Sentences {
         dueText(what + ", all that can be told after undo", whole(x), whole(start.made()));
     }
 
+    /** What the deeds change, each by its name; all the rest that can be told follows from it, but for the buffer. */
+    private static Map<String, String> seen(HotPanLocks x) {
+        Map<String, String> found = new LinkedHashMap<>();
+        for (int hand = 0; hand < 8; hand++) {
+            for (int row = 0; row < 12; row++) {
+                found.put("lock " + (char) ('a' + hand) + row, "" + x.lock(hand, row));
+            }
+        }
+        for (int row = 0; row < 12; row++) {
+            found.put("queue " + row, queue(x, row));
+            found.put("heat " + row, "" + x.row(row, 0));
+            found.put("handed on " + row, "" + x.row(row, 4));
+        }
+        for (int hand = 0; hand < 8; hand++) {
+            String[] names = {"burnt ", "lost ", "granted ", "asked "};
+            for (int what = 0; what < 4; what++) {
+                found.put(names[what] + (char) ('a' + hand), "" + x.hand(hand, 5 + what));
+            }
+        }
+        for (int setting = 0; setting < 3; setting++) {
+            found.put("setting " + setting, "" + x.setting(setting));
+        }
+        found.put("ticks", "" + x.count(2));
+        found.put("saved", "" + x.count(9));
+        return found;
+    }
+
+    /** The call changes this and nothing else. It is looked at in objects of its own, for there are 512 calls alone. */
+    static void changes(String what, Start start, Call call, String want) {
+        Map<String, String> before = seen(start.made());
+        HotPanLocks x = start.made();
+        call.on(x);
+        List<String> found = new ArrayList<>();
+        for (Map.Entry<String, String> one : seen(x).entrySet()) {
+            String was = before.get(one.getKey());
+            if (!one.getValue().equals(was)) {
+                found.add(one.getKey() + " " + was + ">" + one.getValue());
+            }
+        }
+        dueText(what + ": what is changed", String.join("; ", found), want);
+    }
+
     // ---- objects
 
     static HotPanLocks type(HotPanLocks x, String text) {
